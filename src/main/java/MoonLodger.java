@@ -1381,9 +1381,7 @@ public final class MoonLodger {
 
         private int takeNumber(int least, int most) {
             int number = tape.number();
-            if (tape.token() != T_NUMBER) {
-                fail(FAULT_PLACE);
-            } else if (number < least || number > most) {
+            if (tape.token() == T_NUMBER && (number < least || number > most)) {
                 fail(FAULT_NUMBER);
             }
             take(T_NUMBER);
@@ -1913,7 +1911,7 @@ public final class MoonLodger {
     /**
      * The best months, from the last one on. A worth is gains times 16 less how many months, so that of like
      * gains fewer months are worth more; of like worths the number of months is the same, and the month that
-     * comes first is taken.
+     * comes first is taken. Behind the last month, and with no month left to take, worths stay 0.
      */
     private static final class Lease {
         private static final int WIDTH = MONTHS + 1;
@@ -1923,11 +1921,7 @@ public final class MoonLodger {
         private int months = 0;
 
         private void plan(int[] gains, int most, int gap) {
-            for (int left = 0; left <= most; left++) {
-                worths[MONTHS * WIDTH + left] = 0;
-            }
             for (int month = MONTHS - 1; month >= 0; month--) {
-                worths[month * WIDTH] = 0;
                 for (int left = 1; left <= most; left++) {
                     int without = worths[(month + 1) * WIDTH + left];
                     worths[month * WIDTH + left] = Math.max(without, worthWith(gains, month, left, gap));

@@ -163,6 +163,15 @@ public final class DoingTest {
         run.calls("lease(1,0,-1)=6 is(6)=4 by(1)=0 fault(0)=0 steps(8,9)=1 best(false)=-1 undo()=2 is(0)=1 is(4)=4 back()=2");
         run.calls("is(0)=2 about(3)=3 text()=-1 fault(0)=1 back()=2 fault(0)=1 fault(1)=0").text("pays 6;", 1);
         run.calls("by(1)=1 is(6)=6 whose()=0 back()=2 is(6)=4 about(1)=1");
+        new Run(check, "P46 the book").law("kicks 10;").calls("beast(0,0)=0 hour(35)=35 image()=35 hour(7)=7 book(0,0)=12")
+                .calls("of(0,3)=42 back()=35 book(-1,0)=30 book(0,0)=5 book(29,0)=34 of(0,3)=35 of(0,1)=9 hour(1)=1")
+                .calls("book(0,0)=6 undo()=29 book(0,0)=5");
+        new Run(check, "P46 a beast told again").law("kicks 10;").calls("image()=0 beast(0,0)=0 hour(3)=3 of(0,3)=3 back()=0")
+                .calls("beast(1,1)=0 of(0,3)=0 of(0,1)=1 ledger(0)=0");
+        new Run(check, "P46 what was told of light").law("shines 9-steps;").calls("work(0,9)=1 dark(1,8)=1 seen(2,9)=1 seen(3,8)=2")
+                .calls("read(4,3)=1 lodge(10)=1 image()=0 work(-1,0)=0 work(5,9)=1 dark(-1,0)=0 dark(5,0)=1 seen(-1,0)=0")
+                .calls("seen(7,9)=1 seen(7,9)=2 read(-1,0)=0 read(4,8)=1 best(false)=-1 fits(1)=128 whose()=1 back()=0")
+                .calls("best(false)=0 fits(1)=4 whose()=0 read(-1,0)=0 read(4,8)=1 whose()=1");
         new Run(check, "P45 the later image").calls("image()=0 hour(3)=0 image()=3 hour(2)=0 back()=3 back()=3 is(0)=3");
         new Run(check, "P46 the first image").calls("beast(0,0)=0 hour(3)=0 back()=0 about(0)=0 about(3)=0 is(0)=0 image()=0");
         new Run(check, "P46 another text of that number").text("shines 1;", 0).calls("image()=0").text("shines 2;", 1)

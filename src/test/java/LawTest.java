@@ -79,6 +79,18 @@ public final class LawTest {
         pay(check, "if 2#2 then 3 else 4 end", 4);
         pay(check, "if not 1<2 then 3 else 4 end", 4);
         pay(check, "if not not 1<2 then 3 else 4 end", 3);
+        for (String sign : new String[] {"<=", ">=", "="}) {
+            pay(check, "if not 2" + sign + "2 then 3 else 4 end", 4);
+            pay(check, "if 2" + sign + "2 and 2" + sign + "2 then 3 else 4 end", 3);
+        }
+        for (String ask : new String[] {"1<2", "2>1", "1#2"}) {
+            pay(check, "if not " + ask + " then 3 else 4 end", 4);
+            pay(check, "if " + ask + " and " + ask + " then 3 else 4 end", 3);
+        }
+        pay(check, "if 1<2 and 2<1 then 3 else 4 end", 4);
+        pay(check, "if 2<1 and 1<2 then 3 else 4 end", 4);
+        pay(check, "if 1<2 or 2<1 then 3 else 4 end", 3);
+        pay(check, "if 2<1 or 1<2 then 3 else 4 end", 3);
         pay(check, "if 1<2 or 1<2 and 2<1 then 3 else 4 end", 3);
         pay(check, "if 1<2 and 2<1 or 1<2 then 3 else 4 end", 3);
         pay(check, "if 2<1 or 2<1 then 3 else 4 end", 4);

@@ -78,6 +78,8 @@ public final class SearchTest {
                 .calls("seen(29,14)=3 ask()=-1");
         new Run(check, "P32 the most unlike").law("shines if at=9 then size else if at=4 then size/2 else 1 end end;")
                 .calls("ask()=9 cell(9,1)=1 ask()=4 seen(4,7)=1 ask()=0 cell(0,1)=1 ask()=1 is(3)=-1");
+        new Run(check, "P32 of size 0 too").law("shines if at=9 and size=0 then 5 else if at=12 and size=15 then 5 else 0 end end;")
+                .calls("ask()=9 cell(9,1)=1 ask()=12 cell(12,1)=1 ask()=0");
         new Run(check, "P32 by the steps").law("shines steps;").calls("ask()=0 seen(0,4)=1 fits(1)=17318416 ask()=4");
     }
 

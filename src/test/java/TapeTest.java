@@ -41,6 +41,16 @@ public final class TapeTest {
         run.calls("text()=-1 about(8)=5 fault(0)=0 fault(1)=-1 about(1)=4 text()=-1 about(8)=5");
         run.calls("fault(2)=-1 fault(-1)=-1 fault(" + Integer.MIN_VALUE + ")=-1 fault(" + Integer.MAX_VALUE + ")=-1");
         run.calls("back()=0 about(1)=0 about(8)=5 fault(0)=0 text()=-1 fault(0)=1 fault(1)=0 about(8)=0 back()=0 fault(0)=1");
+        Run worn = new Run(check, "P7 behind many faults");
+        for (int i = 0; i < 20; i++) {
+            worn.text("out;out;out;pays 1+1+1+1+1+1+1+1+1+1+1+1+1+1+1+1+1+1+1+1;pays", -1).calls("fault(0)=4");
+        }
+        worn.law("out;".repeat(22) + "pays 7+1+1;hour 1;").calls("is(6)=9 lodge(3)=1 played(0)=1");
+        StringBuilder ones = new StringBuilder("pays 1");
+        while (ones.length() < 298) {
+            ones.append("+1");
+        }
+        new Run(check, "P7 the longest").law(ones.append(" ;").toString()).calls("is(6)=99").text(ones.toString(), 1);
         new Run(check, "P8 ahead of any").calls("fault(0)=-1 fault(1)=-1 fault(2)=-1");
     }
 
@@ -56,6 +66,14 @@ public final class TapeTest {
         check.fault("kicks 1 silver;", 1, 8);
         check.fault("Pays 1;", 1, 0);
         check.fault("paysx 1;", 1, 0);
+        check.fault("paysA 1;", 1, 0);
+        check.fault("paysZ 1;", 1, 0);
+        check.fault("pays_ 1;", 1, 4);
+        check.fault("pays[ 1;", 1, 4);
+        check.fault("pays@ 1;", 1, 4);
+        check.fault("pays{ 1;", 1, 4);
+        check.fault("pays` 1;", 1, 4);
+        check.fault("pays 1:;", 1, 6);
         check.fault("pays\t1;", 1, 4);
         check.fault("pays 1\r;", 1, 6);
         check.fault("pays 1!;", 1, 6);
@@ -67,6 +85,8 @@ public final class TapeTest {
         check.fault("pays if 1< =2 then 1 else 2 end;", 1, 11);
         check.fault("pays if 1<=2 then 1 else 2 end;", 0, -1);
         check.fault("pays if 1>=2 then 1 else 2 end;", 0, -1);
+        check.fault("pays if 1 then 2 else 3 end;", 1, 10);
+        check.fault("pays if 1) then 2 else 3 end;", 1, 9);
         check.fault("pays if 1<2<3 then 1 else 2 end;", 1, 11);
         check.fault("pays if 1<2 then 1 end;", 1, 19);
         check.fault("pays if 1<2 then 1 else 2;", 1, 25);
@@ -118,6 +138,14 @@ public final class TapeTest {
         check.fault("pays --------1;", 0, -1);
         check.fault("pays ---------1;", 3, 13);
         check.fault("pays 1-1-1-1-1-1-1-1-1-1-1;", 0, -1);
+        check.fault("pays " + "light ".repeat(8) + "1;", 0, -1);
+        check.fault("pays " + "light ".repeat(9) + "1;", 3, 53);
+        check.fault("pays " + "mean ".repeat(8) + "1" + " with 1".repeat(8) + ";", 0, -1);
+        check.fault("pays " + "mean ".repeat(9) + "1" + " with 1".repeat(9) + ";", 3, 45);
+        check.fault("pays " + "mean 1 with ".repeat(8) + "1;", 0, -1);
+        check.fault("pays " + "mean 1 with ".repeat(9) + "1;", 3, 101);
+        check.fault("pays " + "if ".repeat(8) + "1" + "<1 then 1 else 1 end".repeat(8) + ";", 0, -1);
+        check.fault("pays " + "if ".repeat(9) + "1" + "<1 then 1 else 1 end".repeat(9) + ";", 3, 29);
         check.fault("pays 1--------1;", 0, -1);
         check.fault("pays ((((((((1))))))))+((((((((1))))))));", 0, -1);
         check.fault("pays (((((((mean 1 with 2)))))))+-1;", 0, -1);
