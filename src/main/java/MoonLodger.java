@@ -1616,37 +1616,48 @@ public final class MoonLodger {
             names[T_SIZE] = size;
         }
 
-        /** Lights are null for shines, which can't ask for light: so this is never more than two deep. */
+        /**
+         * The latest value is kept beside the stack, which has what waits for it. Lights are null for shines,
+         * which can't ask for light: so this is never more than two deep.
+         */
         private int reckon(Text text, int law, Laws lights) {
+            int value = 0;
             int top = 0;
             int end = Math.min(text.ends[law], text.length);
             for (int i = Math.max(0, text.starts[law]); i < end; i++) {
                 int sign = text.code[i] & CODE_MASK;
                 int number = text.code[i] >> CODE_BITS;
-                if (sign < NAME_COUNT || sign == T_NUMBER) {
-                    if (top < STACK_LENGTH) {
-                        stack[top] = sign == T_NUMBER ? number : names[sign];
-                        top++;
-                    }
-                } else if (sign == T_ELSE) {
-                    i = Math.max(i, number - 1);
-                } else if (top < 1) {
-                    return 0;
-                } else if (sign == T_IF) {
-                    top--;
-                    i = stack[top] == 0 ? Math.max(i, number - 1) : i;
-                } else if (sign == C_TURN) {
-                    stack[top - 1] = -stack[top - 1];
-                } else if (sign == T_NOT) {
-                    stack[top - 1] = 1 - stack[top - 1];
-                } else if (sign == T_LIGHT) {
-                    stack[top - 1] = lights == null ? 0 : lights.lightAt(stack[top - 1]);
-                } else if (top > 1) {
-                    top--;
-                    stack[top - 1] = join(sign, stack[top - 1], stack[top]);
+                switch (sign) {
+                    case T_ELSE:
+                        i = Math.max(i, number - 1);
+                        break;
+                    case T_IF:
+                        i = value == 0 ? Math.max(i, number - 1) : i;
+                        top = Math.max(0, top - 1);
+                        value = stack[top];
+                        break;
+                    case C_TURN:
+                        value = -value;
+                        break;
+                    case T_NOT:
+                        value = 1 - value;
+                        break;
+                    case T_LIGHT:
+                        value = lights == null ? 0 : lights.lightAt(value);
+                        break;
+                    default:
+                        if (sign < NAME_COUNT || sign == T_NUMBER) {
+                            stack[top] = value;
+                            top = Math.min(STACK_LENGTH - 1, top + 1);
+                            value = sign == T_NUMBER ? number : names[sign];
+                        } else {
+                            top = Math.max(0, top - 1);
+                            value = join(sign, stack[top], value);
+                        }
+                        break;
                 }
             }
-            return top > 0 ? stack[0] : 0;
+            return value;
         }
 
         private static int join(int sign, int left, int right) {

@@ -97,6 +97,8 @@ public final class LawTest {
         pay(check, "if 1<2 and 1<2 and 2<1 then 3 else 4 end", 4);
         pay(check, "if not 2<1 and 2<1 then 3 else 4 end", 4);
         pay(check, "if not 1<2 or 1<2 then 3 else 4 end", 3);
+        String waiting = "if 2=1or 1=1and 1=0+1*".repeat(7) + "1" + " then 1else 3end".repeat(7);
+        pay(check, "40+2*" + waiting, 42);
         pay(check, "2*if 1<2 then 3 else 4 end+1", 7);
         pay(check, "if 2<1 then 3 else if 2<1 then 4 else 5 end end*2", 10);
         pay(check, "if if 1<2 then 1 else 9 end=1 then if 2<1 then 3 else 4 end else 5 end", 4);
@@ -135,6 +137,9 @@ public final class LawTest {
                 .calls("ofCell(9,2)=1 ofCell(10,2)=0");
         new Run(check, "shines and time").law("shines hour/10+phase*2+size;").calls("lodge(0)=1 ofCell(5,2)=0 hour(20)=0")
                 .calls("ofCell(5,2)=2 hour(4)=0 ofCell(5,2)=5 hour(16)=0 ofCell(5,2)=7");
+        new Run(check, "shines anew each hour").law("shines hour;kicks light at;").calls("beast(5,0)=0 lodge(0)=1 of(0,2)=0")
+                .calls("hour(3)=0 of(0,2)=3 ofCell(5,2)=3 hour(1)=1 book(0,2)=3 of(0,2)=4 ofCell(5,2)=4 foretold(9,2,0)=8")
+                .calls("of(0,2)=4 ofCell(5,2)=4 undo()=4 of(0,2)=3");
         new Run(check, "shines where there are steps").law("shines 9;").calls("cell(1,1)=1 cell(6,1)=1 lodge(0)=1 lit(1)=1")
                 .calls("ofCell(0,2)=9 ofCell(1,2)=0 ofCell(2,2)=0 lodge(2)=1 ofCell(0,2)=0 ofCell(29,2)=9 out()=1 lit(1)=0");
     }

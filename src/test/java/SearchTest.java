@@ -69,6 +69,11 @@ public final class SearchTest {
                 .calls("fits(2)=32768 cell(1,1)=1 fits(0)=0");
         new Run(check, "P31 size and hour").law("shines size+hour+phase-size/15;").calls("seen(4,4)=1 fits(2)=16 hour(3)=0")
                 .calls("fits(2)=2 fits(0)=30 hour(21)=0 fits(0)=0 lodge(3)=1 seen(-1,0)=0 fits(0)=480");
+        Run alone = new Run(check, "P31 one cell alone").law("shines size;");
+        for (int c = 0; c < 29; c++) {
+            alone.calls("cell(" + c + ",1)=1");
+        }
+        alone.calls("seen(29,4)=1 fits(2)=16 fits(1)=536870912 ask()=29 best(true)=0 hour(24)=0 best(true)=1");
         new Run(check, "P31 walls are dark").calls("cell(3,1)=1 seen(3,0)=1 fits(0)=464 seen(3,1)=2 fits(0)=0");
     }
 
