@@ -76,6 +76,13 @@ public final class EdgeFarmTest {
         edge.of("MOON being LODGED, and there being STEPS from it: what shines says; else 0 (of a wall, too).").law("shines 7;")
                 .calls("ofCell(9,2)=0 lodge(3)=1 ofCell(9,2)=7 ofCell(3,2)=7 cell(9,1)=1 ofCell(9,2)=0 cell(23,1)=1 cell(28,1)=1")
                 .calls("ofCell(29,2)=0 ofCell(28,2)=0 ofCell(22,2)=7 lodge(29)=1 ofCell(29,2)=7 ofCell(22,2)=0 out()=1 ofCell(29,2)=0");
+        edge.of("what shines says").law("shines height+kind;")
+                .calls("lodge(0)=1 ofCell(4,2)=5 height(4,0)=1 ofCell(4,2)=0 cell(4,2)=1 ofCell(4,2)=2 cell(4,3)=1")
+                .calls("ofCell(4,2)=3 lodge(4)=1 ofCell(4,2)=3 height(4,9)=1 ofCell(4,2)=12 back()=0 lodge(0)=1 ofCell(4,2)=0");
+        edge.of("what shines says").law("shines hour;")
+                .calls("lodge(0)=1 ofCell(4,2)=0 hour(1)=0 ofCell(4,2)=1 hour(1)=0 ofCell(4,2)=2 undo()=2 ofCell(4,2)=1")
+                .calls("foretold(5,0,0)=6 ofCell(4,2)=1").law("shines 9;")
+                .calls("ofCell(4,2)=9 by(0)=1 ofCell(4,2)=1 by(-1)=1 ofCell(4,2)=0");
     }
 
     private static void lodgedOutLed(Edge edge) {
@@ -94,7 +101,8 @@ public final class EdgeFarmTest {
         // paid first: the kick finds a silver piece to take
         edge.of("Then BEASTS by number").law("pays 1;kicks 10;").calls("beast(0,0)=0 lodge(0)=1 hour(1)=1 is(4)=0 hour(1)=1 is(4)=0")
                 .law("pays 99;kicks 10;").pass(101).calls("is(4)=9898 hour(1)=1 is(4)=9996 hour(1)=1 is(4)=9998 hour(1)=1 is(4)=9998");
-        edge.of("Then BEASTS by number").law("kicks if who=2 then 0 else 10 end;").calls("beast(9,0)=0 beast(8,0)=1 beast(7,5)=2 beast(6,0)=3")
+        edge.of("Then BEASTS by number").law("kicks if who=2 then 0 else 10 end;")
+                .calls("beast(9,0)=0 beast(8,0)=1 beast(7,5)=2 beast(6,0)=3")
                 .calls("hour(1)=3 book(0,1)=0 book(1,1)=1 book(2,1)=3 of(2,1)=4 book(2,0)=0");
     }
 
@@ -120,7 +128,8 @@ public final class EdgeFarmTest {
     private static void kicks(Edge edge) {
         edge.of("MOOD one more (9 at most), KICKED one more, SILVER one less (0 at least), written down").law("kicks 10;")
                 .calls("beast(0,7)=0 hour(1)=1 of(0,1)=8 of(0,3)=1 is(4)=0 book(-1,0)=1 hour(1)=1 of(0,1)=9 of(0,3)=2 hour(1)=1 of(0,1)=9")
-                .calls("of(0,3)=3 is(4)=0 book(-1,0)=3").law("pays 3;kicks 10;").calls("lodge(0)=1 hour(1)=1 is(4)=2 hour(1)=1 is(4)=4 out()=1")
+                .calls("of(0,3)=3 is(4)=0 book(-1,0)=3").law("pays 3;kicks 10;")
+                .calls("lodge(0)=1 hour(1)=1 is(4)=2 hour(1)=1 is(4)=4 out()=1")
                 .calls("hour(3)=3 is(4)=1 hour(1)=1 is(4)=0 hour(1)=1 is(4)=0");
         edge.of("else MOOD one less (0 at least).").law("kicks 0;pays 1;").calls("beast(0,2)=0 lodge(0)=1 hour(1)=0 of(0,1)=1 hour(1)=0")
                 .calls("of(0,1)=0 hour(1)=0 of(0,1)=0 of(0,3)=0 is(4)=3 book(-1,0)=0");
@@ -134,10 +143,13 @@ public final class EdgeFarmTest {
     private static void stepsOfDoing(Edge edge) {
         edge.of("STEPS (of doing): LODGED, OUT, LED, an HOUR (each), YEARS (see V)").calls("beast(0,9)=0 about(3)=0 lodge(1)=1 about(3)=1")
                 .calls("out()=1 about(3)=2 lead(0,5)=1 about(3)=3 hour(4)=0 about(3)=7 years(0,40)=" + hoursOfYears() + " about(3)=8")
-                .calls("cell(9,2)=1 height(9,2)=1 beast(1,1)=1 work(0,0)=1 dark(0,0)=1 seen(0,0)=1 read(0,0)=1 gain(0,1)=1 image()=" + (hoursOfYears()))
+                .calls("cell(9,2)=1 height(9,2)=1 beast(1,1)=1 work(0,0)=1 dark(0,0)=1 seen(0,0)=1 read(0,0)=1 gain(0,1)=1")
+                .calls("image()=" + (hoursOfYears()))
                 .text("out;", 0).calls("by(0)=1 about(3)=8");
-        edge.of("the latest 30 can be taken back, the latest first").calls("hour(30)=0 about(3)=30 lodge(1)=1 about(3)=30 lodge(2)=1 about(3)=30")
-                .calls("undo()=29 is(3)=1 undo()=28 is(3)=-1 is(0)=30 undo()=27 is(0)=29").again(26, "hour(1)=0 undo()=27 undo()=26 hour(1)=0")
+        edge.of("the latest 30 can be taken back, the latest first")
+                .calls("hour(30)=0 about(3)=30 lodge(1)=1 about(3)=30 lodge(2)=1 about(3)=30")
+                .calls("undo()=29 is(3)=1 undo()=28 is(3)=-1 is(0)=30 undo()=27 is(0)=29")
+                .again(26, "hour(1)=0 undo()=27 undo()=26 hour(1)=0")
                 .calls("is(0)=29 about(3)=27");
         Run all = edge.of("the latest 30 can be taken back, the latest first").calls("hour(31)=0");
         for (int left = 29; left >= 0; left--) {
@@ -167,12 +179,15 @@ public final class EdgeFarmTest {
                 .calls("undo()=2 of(0,0)=3 of(0,1)=9 of(0,3)=1 is(4)=4 undo()=1 of(0,1)=8 of(0,3)=0 is(4)=0 is(0)=0 is(5)=197 book(-1,0)=0")
                 .calls("is(3)=4 undo()=0 is(3)=-1 lodge(7)=1 out()=1 undo()=1 is(3)=7");
         edge.of("MOON, BEASTS, SILVER, HOUR, X, BOOK are as ahead of it").law("kicks 10;").calls("beast(0,0)=0 hour(31)=31 book(0,0)=1")
-                .calls("book(29,0)=30 undo()=29 book(-1,0)=30 book(0,0)=0 book(29,0)=29 undo()=28 book(-1,0)=29 book(28,0)=28 book(29,0)=-2")
+                .calls("book(29,0)=30 undo()=29 book(-1,0)=30 book(0,0)=0 book(29,0)=29 undo()=28 book(-1,0)=29 book(28,0)=28")
+                .calls("book(29,0)=-2")
                 .calls("hour(1)=1 book(-1,0)=30 book(29,0)=29");
         edge.of("BEASTS told since are as told").calls("lodge(0)=1 beast(5,4)=0 hour(1)=0 beast(6,8)=1 lead(1,7)=1 hour(1)=0 lead(0,11)=1")
                 .calls("undo()=4 of(0,0)=5 of(1,0)=7 of(0,1)=2 of(1,1)=7 undo()=3 of(0,1)=3 of(1,1)=8 undo()=2 of(1,0)=6 of(1,1)=8")
-                .calls("undo()=1 of(0,1)=4 of(1,1)=8 undo()=0 of(0,0)=5 of(0,1)=4 of(1,0)=6 of(1,1)=8 of(1,3)=0 about(0)=2 is(3)=-1 is(0)=0 undo()=-1");
-        Run old = edge.of("BEASTS told since are as told").law("kicks 10;").calls("hour(1)=0 beast(5,4)=0 lead(0,6)=1 hour(60)=60 of(0,3)=60");
+                .calls("undo()=1 of(0,1)=4 of(1,1)=8 undo()=0 of(0,0)=5 of(0,1)=4 of(1,0)=6 of(1,1)=8 of(1,3)=0 about(0)=2")
+                .calls("is(3)=-1 is(0)=0 undo()=-1");
+        Run old = edge.of("BEASTS told since are as told").law("kicks 10;")
+                .calls("hour(1)=0 beast(5,4)=0 lead(0,6)=1 hour(60)=60 of(0,3)=60");
         for (int left = 29; left >= 0; left--) {
             old.calls("undo()=" + left + " of(0,3)=" + (left + 30) + " of(0,0)=6 of(0,1)=9");
         }
@@ -180,13 +195,19 @@ public final class EdgeFarmTest {
     }
 
     private static void inWalls(Edge edge) {
-        edge.of("MOON or a BEAST can be in a wall by that alone").calls("lodge(0)=1 cell(0,1)=0 lodge(1)=1 cell(0,1)=1 undo()=1 is(3)=0 ofCell(0,0)=1")
+        edge.of("MOON or a BEAST can be in a wall by that alone")
+                .calls("lodge(0)=1 cell(0,1)=0 lodge(1)=1 cell(0,1)=1 undo()=1 is(3)=0 ofCell(0,0)=1")
                 .calls("lodge(0)=0 cell(0,1)=0 hour(1)=0 is(4)=1 out()=1 lodge(0)=0 undo()=2 is(3)=0 lodge(5)=1 is(3)=5");
-        edge.of("MOON or a BEAST can be in a wall by that alone").calls("beast(0,4)=0 cell(0,1)=0 lead(0,1)=1 cell(0,1)=1 undo()=0 of(0,0)=0")
+        edge.of("MOON or a BEAST can be in a wall by that alone")
+                .calls("beast(0,4)=0 cell(0,1)=0 lead(0,1)=1 cell(0,1)=1 undo()=0 of(0,0)=0")
                 .calls("ofCell(0,0)=1 ofCell(0,4)=1 cell(0,1)=0 beast(0,4)=-1 hour(1)=0 of(0,1)=3");
-        edge.of("it has STEPS to no CELL then, it is LONELY").law("shines 9;kicks light at;pays light 0+bed;").calls("lodge(0)=1 beast(0,4)=0")
-                .calls("beast(0,3)=1 is(6)=9 of(0,2)=9 lonely()=0 lodge(1)=1 lead(0,1)=1 lead(1,1)=1 cell(0,1)=1 undo()=3 undo()=2 undo()=1 is(3)=0")
-                .calls("of(0,0)=0 of(1,0)=0 steps(0,0)=-1 steps(0,1)=-1 lit(1)=0 ofCell(0,2)=0 ofCell(0,3)=-1 ofCell(1,3)=-1 lead(0,1)=0 lead(0,0)=0")
-                .calls("brightest()=-1 of(0,2)=0 is(6)=0 lonely()=3 beast(29,0)=2 lonely()=7 beast(28,0)=3 lonely()=3 cell(0,3)=1 lonely()=0 is(6)=10");
+        edge.of("it has STEPS to no CELL then, it is LONELY").law("shines 9;kicks light at;pays light 0+bed;")
+                .calls("lodge(0)=1 beast(0,4)=0")
+                .calls("beast(0,3)=1 is(6)=9 of(0,2)=9 lonely()=0 lodge(1)=1 lead(0,1)=1 lead(1,1)=1 cell(0,1)=1 undo()=3")
+                .calls("undo()=2 undo()=1 is(3)=0")
+                .calls("of(0,0)=0 of(1,0)=0 steps(0,0)=-1 steps(0,1)=-1 lit(1)=0 ofCell(0,2)=0 ofCell(0,3)=-1 ofCell(1,3)=-1")
+                .calls("lead(0,1)=0 lead(0,0)=0")
+                .calls("brightest()=-1 of(0,2)=0 is(6)=0 lonely()=3 beast(29,0)=2 lonely()=7 beast(28,0)=3 lonely()=3")
+                .calls("cell(0,3)=1 lonely()=0 is(6)=10");
     }
 }

@@ -46,7 +46,8 @@ public final class EdgeTextTest {
         edge.of(many).text("pays 1;", 0).text("pays 2;", 1).text("", 2).calls("by(3)=0").text("pays 4;", 3).calls("by(3)=1 is(6)=4")
                 .calls("text()=-1 about(1)=4 by(4)=0 played(4)=-2");
         String longest = " ".repeat(293) + "pays 7;";
-        edge.of(many).law(longest).calls("is(6)=7").tape(longest).calls("about(8)=300 feed(0,0,0,0,0)=-1 end(301)=-1 about(8)=300 text()=1");
+        edge.of(many).law(longest).calls("is(6)=7").tape(longest)
+                .calls("about(8)=300 feed(0,0,0,0,0)=-1 end(301)=-1 about(8)=300 text()=1");
     }
 
     private void tokens() {
@@ -91,6 +92,7 @@ public final class EdgeTextTest {
 
     private void clauses() {
         String most = "{CLAUSE}, 24 at most";
+        edge.of(most).text("lodge 1;out;".repeat(12), 0).calls("played(0)=-1 about(3)=24 is(3)=-1");
         fine(most, "", "out;".repeat(24), "hour 1;shines 1;pays 1;kicks 1;" + "out;".repeat(20));
         fault(most, "out;".repeat(25), 6, 96);
         fault(most, "shines 1;pays 1;kicks 1;" + "out;".repeat(22), 6, 24 + 84);
@@ -122,6 +124,32 @@ public final class EdgeTextTest {
     }
 
     private void ones() {
+        String sum = "SUM: PRODUCT {+ or - PRODUCT}. PRODUCT: ONE {* or / ONE}.";
+        sum(sum, "7", 7);
+        sum(sum, "1+2*3-8/4", 5);
+        sum(sum, "2*3+4*5", 26);
+        sum(sum, "20-2*3", 14);
+        fault(sum, "pays 1+;", 1, 7);
+        fault(sum, "pays 1*;", 1, 7);
+        fault(sum, "pays *1;", 1, 5);
+        fault(sum, "pays +1;", 1, 5);
+        fault(sum, "pays 1++1;", 1, 7);
+        fault(sum, "pays 1**1;", 1, 7);
+        fault(sum, "pays 1-/1;", 1, 7);
+        String one = "ONE: NUMBER, NAME, ( SUM ), - ONE,";
+        sum(one, "(7)", 7);
+        sum(one, "2*(3+4)", 14);
+        sum(one, "--7", 7);
+        sum(one, "9+-2*3", 3);
+        sum(one, "9--2", 11);
+        sum(one, "9*--2", 18);
+        sum(one, "-(2-9)", 7);
+        sum(one, "-2+9", 7);
+        fault(one, "pays ();", 1, 6);
+        fault(one, "pays (1;", 1, 7);
+        fault(one, "pays 1);", 1, 6);
+        fault(one, "pays -;", 1, 6);
+        fault(one, "pays (1=1);", 1, 7);
         String mean = "mean ONE with ONE (both together, as much as that is, by 2, cut towards 0)";
         sum(mean, "mean 0 with 1", 0);
         sum(mean, "mean 3 with 4", 3);
@@ -142,14 +170,20 @@ public final class EdgeTextTest {
         String[][] cells = {{"0", "1"}, {"29", "15"}, {"30", "0"}, {"(0-1)", "0"}, {"-1", "0"}, {"-30", "0"}, {"9999", "0"}, {"7", "8"},
             {"(1000*1000)", "0"}, {"(-1000*1000)", "0"}, {"(64+7)", "0"}, {"(32+7)", "0"}, {"(256+7)", "0"}, {"5+1", "7"}, {"6*2", "14"}};
         for (String[] c : cells) {
-            edge.of(light).law("shines at+1;pays light " + c[0] + ";kicks light " + c[0] + ";").calls("beast(3,0)=0 is(6)=" + ("5+1".equals(c[0]) ? 1 : 0))
+            edge.of(light).law("shines at+1;pays light " + c[0] + ";kicks light " + c[0] + ";")
+                    .calls("beast(3,0)=0 is(6)=" + ("5+1".equals(c[0]) ? 1 : 0))
                     .calls("lodge(3)=1 is(6)=" + c[1] + " of(0,2)=" + Math.min(10, Integer.parseInt(c[1])));
         }
-        edge.of(light).law("shines 9;pays light 8;").calls("lodge(3)=1 is(6)=9 cell(8,1)=1 is(6)=0 cell(8,0)=1 cell(2,1)=1 cell(9,1)=1 cell(4,1)=1 is(6)=0");
+        edge.of(light).law("shines 9;pays light 8;")
+                .calls("lodge(3)=1 is(6)=9 cell(8,1)=1 is(6)=0 cell(8,0)=1 cell(2,1)=1 cell(9,1)=1 cell(4,1)=1 is(6)=0");
         fault(light, "shines light 1;", 5, 7);
         String choice = "if EITHER then SUM else SUM end.";
         sum(choice, "if 1=1 then 3+4 else 5 end*2", 14);
         sum(choice, "if 1=2 then 3 else 4+5 end*2", 18);
+        sum(choice, "50+if 1=1 then 3 else 4 end", 53);
+        sum(choice, "50-if 1=2 then 3 else 4 end*2", 42);
+        sum(choice, "50-2*if 3+1=if 1=2 then 3 else 2*2 end then if 7=8 then 9 else 20-6*2 end else 4 end-1", 33);
+        sum(choice, "mean 50 with if 1=1 then 30 else 4 end", 40);
         fault(choice, "pays if 1=1 then 2 end;", 1, 19);
         fault(choice, "pays if 1=1 else 2 end;", 1, 12);
         fault(choice, "pays if 1=1 then else 2 end;", 1, 17);
@@ -178,9 +212,11 @@ public final class EdgeTextTest {
     }
 
     private void names() {
-        edge.of("bed (1, if MOON lies in a bed, else 0)").law("pays bed+7;").calls("cell(1,3)=1 is(6)=7 lodge(0)=1 is(6)=7 lodge(1)=1 is(6)=8")
+        edge.of("bed (1, if MOON lies in a bed, else 0)").law("pays bed+7;")
+                .calls("cell(1,3)=1 is(6)=7 lodge(0)=1 is(6)=7 lodge(1)=1 is(6)=8")
                 .calls("cell(1,2)=1 is(6)=7 cell(1,0)=1 is(6)=7 cell(1,3)=1 is(6)=8 out()=1 is(6)=7 undo()=2 is(6)=8");
-        edge.of("steps, kind, height, at (its number) of the CELL in shines").law("shines at;").calls("lodge(29)=1 ofCell(0,2)=0 ofCell(9,2)=9")
+        edge.of("steps, kind, height, at (its number) of the CELL in shines").law("shines at;")
+                .calls("lodge(29)=1 ofCell(0,2)=0 ofCell(9,2)=9")
                 .law("shines height;").calls("height(4,0)=1 height(3,9)=1 ofCell(4,2)=0 ofCell(3,2)=9 ofCell(2,2)=5")
                 .law("shines kind;").calls("cell(4,2)=1 cell(3,3)=1 ofCell(4,2)=2 ofCell(3,2)=3 ofCell(2,2)=0")
                 .law("shines steps;").calls("ofCell(29,2)=0 ofCell(28,2)=1 ofCell(0,2)=9");
@@ -190,6 +226,10 @@ public final class EdgeTextTest {
         edge.of("hour, phase, size in all").law("shines hour/24-phase+size;pays hour/24+phase+size;kicks hour/24-phase+size;")
                 .calls("beast(0,0)=0 lodge(0)=1").pass(24 * 16).calls("is(6)=46 ofCell(7,2)=14 of(0,2)=10").pass(24 * 11)
                 .calls("is(6)=57 ofCell(7,2)=3 of(0,2)=3").pass(24 * 4).calls("is(6)=33 ofCell(7,2)=15 of(0,2)=10");
+        edge.of("hour, phase, size in all").law("kicks hour-phase-size;").calls("beast(0,9)=0 of(0,2)=0 hour(4)=1 of(0,2)=4")
+                .law("pays hour-phase-size;").calls("is(6)=4 hour(1)=0 is(6)=5")
+                .law("kicks phase;").pass(43).calls("of(0,2)=2").law("kicks size;").pass(336).calls("is(1)=16 of(0,2)=10")
+                .pass(312).calls("is(1)=29 of(0,2)=1");
     }
 
     private void reckoning() {
@@ -365,44 +405,62 @@ public final class EdgeTextTest {
     }
 
     private void laws() {
-        edge.of("THE TEXT (told; at first none) rules.").calls("about(2)=-1").text("pays 7;", 0).calls("about(2)=-1 is(6)=1 by(0)=1 is(6)=7 by(-1)=1 is(6)=1");
+        edge.of("THE TEXT (told; at first none) rules.").calls("about(2)=-1").text("pays 7;", 0)
+                .calls("about(2)=-1 is(6)=1 by(0)=1 is(6)=7 by(-1)=1 is(6)=1");
         String shines = "shines: 0 at least, 15 at most; without: SIZE, less 2 for each of STEPS.";
         for (int v = -1; v <= 17; v++) {
-            edge.of(shines).law("shines 20-(20-" + (v < 0 ? "-1" : v) + ");").calls("lodge(0)=1 ofCell(7,2)=" + Math.max(0, Math.min(15, v)));
+            edge.of(shines).law("shines 20-(20-" + (v < 0 ? "-1" : v) + ");")
+                    .calls("lodge(0)=1 ofCell(7,2)=" + Math.max(0, Math.min(15, v)));
         }
-        edge.of(shines).law("shines -1000*1000;").calls("lodge(0)=1 ofCell(0,2)=0 brightest()=-1").law("shines 1000*1000;").calls("ofCell(0,2)=15 ofCell(29,2)=15");
-        edge.of(shines).calls("lodge(0)=1 ofCell(0,2)=0").pass(24).calls("ofCell(0,2)=1 ofCell(1,2)=0").pass(24).calls("ofCell(0,2)=2 ofCell(1,2)=0").pass(24)
+        edge.of(shines).law("shines -1000*1000;").calls("lodge(0)=1 ofCell(0,2)=0 brightest()=-1").law("shines 1000*1000;")
+                .calls("ofCell(0,2)=15 ofCell(29,2)=15");
+        edge.of(shines).calls("lodge(0)=1 ofCell(0,2)=0").pass(24).calls("ofCell(0,2)=1 ofCell(1,2)=0").pass(24)
+                .calls("ofCell(0,2)=2 ofCell(1,2)=0").pass(24)
                 .calls("ofCell(0,2)=3 ofCell(1,2)=1 ofCell(2,2)=0").law("pays 1;").calls("ofCell(0,2)=3 ofCell(1,2)=1").pass(24 * 12)
                 .calls("ofCell(0,2)=15 ofCell(29,2)=0 ofCell(22,2)=1 ofCell(23,2)=0 ofCell(27,2)=1").pass(24).calls("ofCell(0,2)=14");
         String pays = "pays: 0 at least, 99 at most; without: 1.";
         edge.of(pays).calls("is(6)=1").law("shines 3;").calls("is(6)=1").law("pays -1;").calls("is(6)=0 lodge(0)=1 hour(1)=0 is(4)=0")
                 .law("pays 100;").calls("is(6)=99 hour(1)=0 is(4)=99");
-        edge.of(pays).law("pays 0;").calls("is(6)=0").law("pays 99;").calls("is(6)=99").law("pays 98;").calls("is(6)=98").law("pays -1000*1000;").calls("is(6)=0");
+        edge.of(pays).law("pays 0;").calls("is(6)=0").law("pays 99;").calls("is(6)=99").law("pays 98;").calls("is(6)=98")
+                .law("pays -1000*1000;").calls("is(6)=0");
         edge.of(pays).law("pays 1000*1000;").calls("is(6)=99 by(-1)=1 is(6)=1");
         String kicks = "kicks (the odds of 10): 0 at least, 10 at most; without: LIGHT of its CELL by 3, cut.";
-        edge.of(kicks).law("kicks -1;").calls("beast(0,0)=0 of(0,2)=0").law("kicks 11;").calls("of(0,2)=10").law("kicks 10;").calls("of(0,2)=10").law("kicks 9;")
+        edge.of(kicks).law("kicks -1;").calls("beast(0,0)=0 of(0,2)=0").law("kicks 11;").calls("of(0,2)=10").law("kicks 10;")
+                .calls("of(0,2)=10").law("kicks 9;")
                 .calls("of(0,2)=9");
-        edge.of(kicks).law("kicks 1000*1000;").calls("beast(0,0)=0 of(0,2)=10").law("kicks -1000*1000;").calls("of(0,2)=0").law("kicks 0;").calls("of(0,2)=0");
+        edge.of(kicks).law("kicks 1000*1000;").calls("beast(0,0)=0 of(0,2)=10").law("kicks -1000*1000;").calls("of(0,2)=0")
+                .law("kicks 0;").calls("of(0,2)=0");
         for (int light = 0; light <= 15; light++) {
-            edge.of(kicks).law("shines " + light + ";").calls("beast(0,0)=0 of(0,2)=0 lodge(3)=1 of(0,2)=" + light / 3 + " cell(1,1)=1 cell(6,1)=1 of(0,2)=0");
+            edge.of(kicks).law("shines " + light + ";")
+                    .calls("beast(0,0)=0 of(0,2)=0 lodge(3)=1 of(0,2)=" + light / 3 + " cell(1,1)=1 cell(6,1)=1 of(0,2)=0");
         }
     }
 
     private void played() {
         String all = "its CLAUSES but laws, in their order, as by hand";
-        edge.of(all).text("pays 9;cell 1 kind 3;lodge 1;shines 5;hour 2;beast 1 mood 3;lead 0 to 2;height 1 of 3;out;kicks 10;", 0).calls("played(0)=-1")
-                .calls("is(4)=2 is(6)=1 about(2)=-1 ofCell(1,0)=3 is(0)=2 of(0,0)=2 of(0,1)=3 ofCell(3,1)=1 is(3)=-1 about(3)=5 book(-1,0)=0");
+        edge.of(all)
+                .text("pays 9;cell 1 kind 3;lodge 1;shines 5;hour 2;beast 1 mood 3;lead 0 to 2;height 1 of 3;out;kicks 10;", 0)
+                .calls("played(0)=-1")
+                .calls("is(4)=2 is(6)=1 about(2)=-1 ofCell(1,0)=3 is(0)=2 of(0,0)=2 of(0,1)=3 ofCell(3,1)=1 is(3)=-1")
+                .calls("about(3)=5 book(-1,0)=0");
         edge.of(all).text("pays 9;", 0).text("lodge 0;hour 3;pays 50;", 1).calls("by(0)=1 played(1)=-1 is(4)=27 about(2)=0");
         edge.of(all).text("", 0).text("shines 1;pays 1;kicks 1;", 1).calls("played(0)=-1 played(1)=-1 about(3)=0");
         String ends = "one that can't be ends it (of so many HOURS those that can pass do): its number among all CLAUSES (from 0); what was done stays.";
-        edge.of(ends).text("out;lodge 1;", 0).calls("played(0)=0 is(3)=-1").text("lodge 1;shines 1;lodge 1;lodge 2;", 1).calls("played(1)=2 is(3)=1 played(1)=0 is(3)=1")
+        edge.of(ends).text("out;lodge 1;", 0).calls("played(0)=0 is(3)=-1").text("lodge 1;shines 1;lodge 1;lodge 2;", 1)
+                .calls("played(1)=2 is(3)=1 played(1)=0 is(3)=1")
                 .text("cell 3 kind 3;cell 1 kind 1;cell 4 kind 1;", 2).calls("played(2)=1 ofCell(3,0)=3 ofCell(1,0)=0 ofCell(4,0)=0");
-        edge.of(ends).text("out;".repeat(23) + "lodge 1;", 0).text("lodge 1;" + "pays 1;" + "lodge 2;lodge 1;".repeat(10) + "kicks 1;lodge 1;", 1)
+        edge.of(ends).text("out;".repeat(23) + "lodge 1;", 0)
+                .text("lodge 1;" + "pays 1;" + "lodge 2;lodge 1;".repeat(10) + "kicks 1;lodge 1;", 1)
                 .calls("played(0)=0 played(1)=23 is(3)=1 about(3)=21");
-        edge.of(ends).text("cell 5 kind 1;beast 5 mood 1;", 0).text("beast 0 mood 1;beast 0 mood 1;beast 0 mood 1;", 1).text("lead 4 to 3;lead 4 to 3;", 2)
-                .text("lead 3 to 5;", 3).calls("played(0)=1 about(0)=0 played(1)=-1 played(2)=0 played(1)=2 about(0)=5 played(2)=1 of(4,0)=3 played(3)=0");
+        edge.of(ends).text("cell 5 kind 1;beast 5 mood 1;", 0).text("beast 0 mood 1;beast 0 mood 1;beast 0 mood 1;", 1)
+                .text("lead 4 to 3;lead 4 to 3;", 2)
+                .text("lead 3 to 5;", 3)
+                .calls("played(0)=1 about(0)=0 played(1)=-1 played(2)=0 played(1)=2 about(0)=5 played(2)=1 of(4,0)=3")
+                .calls("played(3)=0");
         edge.of(ends).pass(9996).text("out;pays 1;hour 4;lodge 3;", 0).text("hour 1;", 1).text("hour 2;lodge 4;hour 1;lodge 5;hour 1;", 2)
-                .calls("image()=9996 lodge(0)=1 played(0)=2 is(0)=9999 is(3)=-1 about(3)=30 played(1)=0 is(0)=9999 back()=9996 played(2)=4 is(3)=5 is(0)=9999");
-        edge.of(ends).pass(9939).text("hour 60;lodge 3;", 0).calls("played(0)=-1 is(0)=9999 is(3)=3 undo()=29 is(3)=-1 is(0)=9999 played(0)=0 is(3)=-1");
+                .calls("image()=9996 lodge(0)=1 played(0)=2 is(0)=9999 is(3)=-1 about(3)=30 played(1)=0 is(0)=9999 back()=9996")
+                .calls("played(2)=4 is(3)=5 is(0)=9999");
+        edge.of(ends).pass(9939).text("hour 60;lodge 3;", 0)
+                .calls("played(0)=-1 is(0)=9999 is(3)=3 undo()=29 is(3)=-1 is(0)=9999 played(0)=0 is(3)=-1");
     }
 }

@@ -1,3 +1,5 @@
+import java.lang.reflect.Field;
+import java.lang.reflect.Modifier;
 import java.nio.file.Files;
 import java.nio.file.Path;
 import java.util.HashSet;
@@ -27,8 +29,36 @@ public final class LanguageTest {
         check.due("inner classes", count(code, "(?m)^ ++(?!private static final class).*\\bclass\\b"), 0);
         check.due("classes", count(code, "\\bclass\\b") <= 12, true);
         check.due("members that can be seen", count(code, "(?m)^    (?!private|public|\\}|\\s)\\S"), 0);
+        library(check, code);
+        fields(check);
         methods(check, code);
         check.end("LanguageTest");
+    }
+
+    /** Rule 4: of the library only what it lists, and of that nothing which could throw. */
+    private static void library(Check check, String code) {
+        Set<String> allowed = Set.of("Math.max", "Math.min", "Integer.bitCount", "System.arraycopy", "WORDS.length",
+                "WORDS.charAt", "SIGNS.indexOf");
+        Matcher m = Pattern.compile("\\b[A-Z]\\w*\\.[a-z]\\w*").matcher(code);
+        while (m.find()) {
+            check.due("library: " + m.group(), allowed.contains(m.group()), true);
+        }
+        check.due("arrays of two dimensions", count(code, "\\]\\s*\\["), 0);
+    }
+
+    /** Rule 11: some twenty fields a class beside its constants. */
+    private static void fields(Check check) {
+        Set<Class<?>> classes = new HashSet<>(Set.of(MoonLodger.class.getDeclaredClasses()));
+        classes.add(MoonLodger.class);
+        for (Class<?> type : classes) {
+            int own = 0;
+            for (Field field : type.getDeclaredFields()) {
+                boolean constant = Modifier.isStatic(field.getModifiers());
+                own += constant ? 0 : 1;
+                check.due("static " + field.getName() + " is final", !constant || Modifier.isFinal(field.getModifiers()), true);
+            }
+            check.due("fields of " + type.getName(), own <= 20, true);
+        }
     }
 
     private static void methods(Check check, String code) {
