@@ -50,10 +50,20 @@ public final class WalkTest {
         return found;
     }
 
+    /** In every other walk many calls are left out, so that the others come often enough to meet one another. */
+    private List<String> someOf(List<String> names, boolean all) {
+        List<String> some = new ArrayList<>(names);
+        some.removeIf(name -> !all && draw.nextInt(3) > 0);
+        return some.isEmpty() ? names : some;
+    }
+
     private boolean goes() throws Exception {
         List<String> names = new ArrayList<>(OURS.keySet());
         names.sort(Comparator.naturalOrder());
         names.remove("feed");
+        boolean all = draw.nextBoolean();
+        names = someOf(names, all);
+        List<String> doing = someOf(List.of(DOING), all);
         int nearEnd = draw.nextInt(8) == 0 ? 170 : 0;
         for (int i = 0; i < nearEnd; i++) {
             if (!call("hour", 60)) {
@@ -66,7 +76,7 @@ public final class WalkTest {
             if (dice < 4) {
                 same = tellText();
             } else if (dice < 45) {
-                same = callDrawn(DOING[draw.nextInt(DOING.length)]);
+                same = callDrawn(doing.get(draw.nextInt(doing.size())));
             } else {
                 same = callDrawn(names.get(draw.nextInt(names.size())));
             }
